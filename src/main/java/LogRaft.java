@@ -715,25 +715,36 @@ public final class LogRaft {
         private boolean takeArguments(Command command) {
             switch (command.word) {
                 case SHOUT:
-                    command.first = takeBetween('0', '9') - '0';
-                    return command.first >= 0 && takeSign(' ') && takeLetter(command);
+                    return takeFirst(command) && takeSign(' ') && takeLetter(command);
                 case CUT:
                 case TIE:
-                    command.first = takeBetween('0', '9') - '0';
-                    command.second = command.first < 0 ? NONE : takeBetween('0', '9') - '0';
-                    return command.second >= 0;
+                    return takeFirst(command) && takeSecond(command);
                 case BEAT:
-                    command.first = takeSign(' ') ? takeBetween('0', '9') - '0' : 1;
-                    return command.first >= 0;
+                    command.first = 1;
+                    return !takeSign(' ') || takeFirst(command);
                 default:
-                    command.first = takeBetween('0', '9') - '0';
-                    return command.first >= 0;
+                    return takeFirst(command);
             }
+        }
+
+        private boolean takeFirst(Command command) {
+            command.first = takeDigit();
+            return command.first >= 0;
+        }
+
+        private boolean takeSecond(Command command) {
+            command.second = takeDigit();
+            return command.second >= 0;
         }
 
         private boolean takeLetter(Command command) {
             command.second = takeBetween('a', 'z');
             return command.second >= 0;
+        }
+
+        private int takeDigit() {
+            int sign = takeBetween('0', '9');
+            return sign < 0 ? NONE : sign - '0';
         }
 
         private boolean takeSign(char sign) {
@@ -838,6 +849,12 @@ public final class LogRaft {
             return isAboard && doing != LEADS;
         }
 
+        /** Returns whether the patience has run out. */
+        boolean waitBeat() {
+            waited++;
+            return waited >= patience;
+        }
+
         int beatsLeft() {
             return patience - waited;
         }
@@ -910,6 +927,7 @@ public final class LogRaft {
     /** All that changes can change; the count of drivers never goes beyond their array. */
     private static final class Raft {
         final Driver[] drivers = new Driver[MOST_DRIVERS];
+        // A rope stands here twice, once from each of its two drivers.
         final boolean[] cutRopes = new boolean[MOST_DRIVERS * MOST_DRIVERS];
         int count;
         int beat;
@@ -980,17 +998,13 @@ public final class LogRaft {
 
         // Ropes
 
-        /** The index of the rope between two drivers, the same in whatever order they come. */
-        private int ropeOf(int one, int other) {
-            return Math.max(one, other) * MOST_DRIVERS + Math.min(one, other);
-        }
-
         boolean isRopeCut(int one, int other) {
-            return cutRopes[ropeOf(one, other)];
+            return cutRopes[one * MOST_DRIVERS + other];
         }
 
         void setRope(int one, int other, boolean isCut) {
-            cutRopes[ropeOf(one, other)] = isCut;
+            cutRopes[one * MOST_DRIVERS + other] = isCut;
+            cutRopes[other * MOST_DRIVERS + one] = isCut;
         }
 
         boolean canReach(int one, int other) {
@@ -1008,13 +1022,13 @@ public final class LogRaft {
         }
 
         int countCutRopes() {
-            int many = 0;
+            int ends = 0;
             for (int i = 0; i < cutRopes.length; i++) {
                 if (cutRopes[i]) {
-                    many++;
+                    ends++;
                 }
             }
-            return many;
+            return ends / 2;
         }
 
         // Votes
@@ -1125,24 +1139,16 @@ public final class LogRaft {
         int passBeat() {
             int asksBefore = asks;
             for (int i = 0; i < count; i++) {
-                if (drivers[i].isAboard) {
-                    liveBeat(i);
+                if (drivers[i].isWaiting()) {
+                    if (drivers[i].waitBeat()) {
+                        gatherVotes(i);
+                    }
+                } else if (drivers[i].isAboard) {
+                    sendFrom(i);
                 }
             }
             beat++;
             return asks - asksBefore;
-        }
-
-        private void liveBeat(int number) {
-            Driver driver = drivers[number];
-            if (driver.doing == LEADS) {
-                sendFrom(number);
-                return;
-            }
-            driver.waited++;
-            if (driver.waited >= driver.patience) {
-                gatherVotes(number);
-            }
         }
 
         // Comparing and counting

@@ -22,6 +22,7 @@ public final class PromisesTest {
         askTakesOver();
         send();
         sendTales();
+        sendToOneWhoAsked();
         sendTakesOver();
         shout();
         wash();
@@ -54,6 +55,7 @@ public final class PromisesTest {
         meanTale();
         agreedShare();
         account();
+        fullCrew();
         undo();
         save();
         restore();
@@ -172,8 +174,21 @@ public final class PromisesTest {
         LogRaft x = new LogRaft();
         due("clear of nothing", x.clear(), 0);
         x = sailing();
+        x.shout(0, 'c');
+        x.cut(0, 1);
+        x.ask(1);
+        x.shout(1, 'd');
+        x.tie(0, 1);
+        x.send(1);
+        x.shout(1, 'e');
+        x.beats(2);
+        due("lines were cut off", x.account(8), 1);
+        due("clear after cut lines", x.clear(), 3);
+        due("accounts", accounts(x), "[0, 0, 0, 0, 0, 0, 0, 0, 0, 0, 0, 0, 0]");
+        x = sailing();
         x.cut(1, 2);
         x.beats(2);
+        due("has waited", x.driverOf(1, 3), 1);
         x.save();
         readText(x, "xx");
         x.ask(0);
@@ -191,6 +206,7 @@ public final class PromisesTest {
         due("driver", x.driver(4), 2);
         due("the new driver's tale", told(x, 0), "f0:|");
         due("the new driver's vote", x.driverOf(0, 4), NONE);
+        due("the new driver's waiting", x.driverOf(1, 3), 0);
         due("the new driver's asking", x.driverOf(0, 9), 0);
         due("the new driver's leading", x.driverOf(0, 10), 0);
         due("ropes are whole", x.reaches(1, 2), true);
@@ -441,6 +457,24 @@ public final class PromisesTest {
         due("a line of its own", x.send(0), 2);
         due("agreed with it", told(x, 0), "l4:a1b4|");
         due("not yet", told(x, 2), "f4:|a1b4");
+    }
+
+    private static void sendToOneWhoAsked() {
+        promise = 6;
+        LogRaft x = crew(5, 5, 5, 5);
+        x.cut(0, 1);
+        x.cut(1, 2);
+        x.cut(1, 3);
+        x.ask(1);
+        x.beats(2);
+        x.ask(0);
+        due("asks in the same term", x.driverOf(1, 0) * 10 + x.driverOf(1, 1), 11);
+        due("leads in the same term", x.driverOf(0, 0) * 10 + x.driverOf(0, 1), 21);
+        x.tie(0, 1);
+        due("sends to it", x.send(0), 4);
+        due("it follows", x.driverOf(1, 0), 0);
+        due("waits anew", x.driverOf(1, 3), 0);
+        due("keeps its vote in the same term", x.driverOf(1, 4), 1);
     }
 
     private static void sendTakesOver() {
@@ -989,6 +1023,12 @@ public final class PromisesTest {
         dueLead("a greater term", x, 3, 0);
         due("undone changes", x.undo(), 7);
         dueLead("one who asks", x, 0, 3);
+        LogRaft y = crew(5, 5, 5);
+        y.cut(0, 1);
+        y.cut(0, 2);
+        y.ask(0);
+        y.tie(0, 1);
+        dueLead("one in the term in which it would ask", y, 1, 2);
     }
 
     private static void alike() {
@@ -1007,6 +1047,15 @@ public final class PromisesTest {
         x.shout(1, 'c');
         due("another term", x.alike(1, 0), 2);
         due("empty ones", crew(1, 1).alike(0, 1), 0);
+        x = crew(5, 5);
+        x.ask(0);
+        x.shout(0, 'a');
+        x.shout(0, 'b');
+        x.send(0);
+        due("after sending", x.alike(0, 1), 2);
+        x.undo();
+        due("lines that were taken back", x.alike(0, 1), 0);
+        due("the other way", x.alike(1, 0), 0);
     }
 
     private static void holders() {
@@ -1066,6 +1115,25 @@ public final class PromisesTest {
         due("a washed one knows", x.agreed(), 2);
         promise = 27;
         due("a washed one knows", x.agreedAgain(), 2);
+        x = crew(5, 5, 5);
+        x.ask(0);
+        x.shout(0, 'a');
+        x.send(0);
+        promise = 26;
+        due("the first one knows", x.agreed(), 1);
+        promise = 27;
+        due("the first one knows", x.agreedAgain(), 1);
+        x.send(0);
+        x.shout(0, 'b');
+        x.cut(0, 1);
+        x.cut(0, 2);
+        x.ask(2);
+        x.shout(2, 'c');
+        x.send(2);
+        promise = 26;
+        due("the last one knows", x.agreed(), 2);
+        promise = 27;
+        due("the last one knows", x.agreedAgain(), 2);
     }
 
     private static void conflicts() {
@@ -1335,6 +1403,40 @@ public final class PromisesTest {
         due("beats", accounts(x), "[3, 3, 2, 1, 2, 2, 2, 3, 2, 4, 5, 3, 8]");
         due("refused calls change nothing", x.wash(1), REFUSED);
         due("the same", accounts(x), "[3, 3, 2, 1, 2, 2, 2, 3, 2, 4, 5, 3, 8]");
+        x.cut(0, 2);
+        x.ask(0);
+        x.ask(0);
+        due("the greatest term is the first one's", x.account(4), 4);
+    }
+
+    /** With five drivers each loop over drivers goes as far as it ever can. */
+    private static void fullCrew() {
+        promise = 38;
+        LogRaft x = crew(9, 8, 7, 6, 5);
+        due("leads all", x.couldLead(4), 5);
+        due("asks all", x.ask(4), 5);
+        due("leader", x.leader(), 4);
+        x.shout(4, 'a');
+        due("sends to all", x.send(4), 5);
+        due("agreed", x.agreed() * 10 + x.agreedAgain(), 11);
+        due("holders", x.holders(0, 1), 5);
+        due("reaches", x.driverOf(0, 8), 4);
+        due("conflicts", x.conflicts(), 0);
+        due("safe", x.isSafe(), 1);
+        dueRanks(x, 0, 1, 2, 3, 4);
+        dueOldest(x, 3, 2, 1, 0);
+        due("votes", toldVotes(x, 4), "0,1,2,3,4");
+        due("quiet", x.quietBeats(), NOTHING);
+        due("cut", x.cut(4, 3), 1);
+        due("quiet", x.quietBeats(), 6);
+        x.cut(4, 2);
+        x.cut(4, 1);
+        due("cut", x.cut(4, 0), 4);
+        due("all but one", x.couldLead(0), 4);
+        due("a leader alone", x.send(4), 1);
+        due("mean", Float.floatToIntBits(x.meanTale()), Float.floatToIntBits(1.0f));
+        due("share", Double.doubleToLongBits(x.agreedShare()), Double.doubleToLongBits(0.2));
+        due("accounts", accounts(x), "[0, 5, 5, 4, 1, 1, 1, 1, 0, 2, 5, 0, 8]");
     }
 
     private static void undo() {
@@ -1390,6 +1492,34 @@ public final class PromisesTest {
         x.beats(1);
         x.send(0);
         due("is a change", x.account(12), 5);
+        x = crew(9, 9, 9);
+        x.ask(0);
+        x.shout(0, 'a');
+        x.cut(0, 1);
+        x.cut(0, 2);
+        x.ask(1);
+        x.shout(1, 'b');
+        x.tie(0, 1);
+        String before = accounts(x);
+        x.send(1);
+        due("lines are cut off", x.account(8), 1);
+        x.undo();
+        x.cut(0, 1);
+        x.undo();
+        x.shout(1, 'c');
+        x.undo();
+        due("accounts as before", x.account(7) * 10 + x.account(8), 20);
+        due("but for the changes", accounts(x).equals(before), false);
+        due("a tail that was cut off comes back", told(x, 0), "l1:|a1");
+        due("the tie", x.undo(), 6);
+        due("the shout", x.undo(), 5);
+        due("the line shouted", x.account(7), 1);
+        due("the asking", x.undo(), 4);
+        due("votes are taken back", toldVotes(x, 0), "0,1,2");
+        due("vote", x.driverOf(1, 4), 0);
+        due("asked", x.driverOf(1, 9), 0);
+        due("led", x.driverOf(1, 10), 0);
+        due("term", x.account(4), 1);
     }
 
     private static void save() {
