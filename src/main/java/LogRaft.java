@@ -145,7 +145,7 @@ public final class LogRaft {
             case TIE:
                 return changeRope(first, second, false);
             default:
-                return letPass(first);
+                return first >= 1 && first <= MOST_BEATS ? now.passBeats(first) : BAD;
         }
     }
 
@@ -252,17 +252,6 @@ public final class LogRaft {
         return now.countCutRopes();
     }
 
-    private int letPass(int many) {
-        if (many < 1 || many > MOST_BEATS) {
-            return BAD;
-        }
-        int asked = 0;
-        for (int i = 0; i < many; i++) {
-            asked += now.passBeat();
-        }
-        return asked;
-    }
-
     private int refuse(int reason, int detail) {
         reasons.put(reason, detail);
         return REFUSED;
@@ -345,8 +334,7 @@ public final class LogRaft {
         int bestTerm = 0;
         for (int i = 0; i < now.count; i++) {
             Driver driver = now.drivers[i];
-            boolean isLeading = driver.isAboard && driver.doing == LEADS;
-            if (isLeading && (best == NOTHING || driver.term > bestTerm)) {
+            if (driver.isLeading() && (best == NOTHING || driver.term > bestTerm)) {
                 best = i;
                 bestTerm = driver.term;
             }
@@ -487,7 +475,7 @@ public final class LogRaft {
     public int quietBeats() {
         spare.copyFrom(now);
         for (int i = 1; i <= MOST_PATIENCE; i++) {
-            if (spare.passBeat() > 0) {
+            if (spare.passBeats(1) > 0) {
                 return i;
             }
         }
@@ -845,14 +833,20 @@ public final class LogRaft {
             }
         }
 
+        boolean isLeading() {
+            return isAboard && doing == LEADS;
+        }
+
         boolean isWaiting() {
             return isAboard && doing != LEADS;
         }
 
-        /** Returns whether the patience has run out. */
+        /** Returns whether the patience has run out; one who is washed away does not wait. */
         boolean waitBeat() {
-            waited++;
-            return waited >= patience;
+            if (isAboard) {
+                waited++;
+            }
+            return isAboard && waited >= patience;
         }
 
         int beatsLeft() {
@@ -1135,19 +1129,19 @@ public final class LogRaft {
             return taking;
         }
 
-        /** Returns how often drivers asked for votes in this beat. */
-        int passBeat() {
+        /** Returns how often drivers asked for votes in these beats. */
+        int passBeats(int many) {
             int asksBefore = asks;
-            for (int i = 0; i < count; i++) {
-                if (drivers[i].isWaiting()) {
-                    if (drivers[i].waitBeat()) {
-                        gatherVotes(i);
+            for (int i = 0; i < many; i++) {
+                for (int j = 0; j < count; j++) {
+                    if (drivers[j].isLeading()) {
+                        sendFrom(j);
+                    } else if (drivers[j].waitBeat()) {
+                        gatherVotes(j);
                     }
-                } else if (drivers[i].isAboard) {
-                    sendFrom(i);
                 }
+                beat++;
             }
-            beat++;
             return asks - asksBefore;
         }
 
