@@ -1,17 +1,5 @@
-import java.util.Arrays;
-
 /** For each promise of the document, calls with the answers that are due. */
-public final class PromisesTest {
-    private static final int NONE = -1;
-    private static final int BAD = -2;
-    private static final int REFUSED = -3;
-    private static final int NOTHING = -4;
-    private static final int LOW = Integer.MIN_VALUE;
-    private static final int HIGH = Integer.MAX_VALUE;
-
-    private static int wrong = 0;
-    private static int promise = 0;
-
+public final class PromisesTest extends Checks {
     public static void main(String[] arguments) {
         constants();
         newObject();
@@ -59,93 +47,7 @@ public final class PromisesTest {
         undo();
         save();
         restore();
-        System.out.println(wrong == 0 ? "all promises are kept" : wrong + " answers are wrong");
-        if (wrong != 0) {
-            System.exit(1);
-        }
-    }
-
-    private static void due(String call, long got, long want) {
-        if (got != want) {
-            wrong++;
-            System.out.println("promise " + promise + ": " + call + " answered " + got + ", due is " + want);
-        }
-    }
-
-    private static void due(String call, boolean got, boolean want) {
-        due(call, got ? 1 : 0, want ? 1 : 0);
-    }
-
-    private static void due(String call, String got, String want) {
-        if (!got.equals(want)) {
-            wrong++;
-            System.out.println("promise " + promise + ": " + call + " answered " + got + ", due is " + want);
-        }
-    }
-
-    private static LogRaft crew(int... patiences) {
-        LogRaft x = new LogRaft();
-        for (int i = 0; i < patiences.length; i++) {
-            due("driver", x.driver(patiences[i]), i);
-        }
-        return x;
-    }
-
-    private static void type(LogRaft x, String text) {
-        for (int i = 0; i < text.length(); i++) {
-            x.append(text.charAt(i));
-        }
-    }
-
-    private static int readText(LogRaft x, String text) {
-        type(x, text);
-        return x.read();
-    }
-
-    private static String writtenOf(LogRaft x) {
-        StringBuilder line = new StringBuilder();
-        for (int i = 0; x.written(i) != NONE; i++) {
-            line.append((char) x.written(i));
-        }
-        return line.toString();
-    }
-
-    private static String told(LogRaft x, int driver) {
-        int length = x.tell(driver);
-        String line = writtenOf(x);
-        due("length of tell", length, line.length());
-        return line;
-    }
-
-    private static String toldVotes(LogRaft x, int driver) {
-        int length = x.tellVotes(driver);
-        String line = writtenOf(x);
-        due("length of tellVotes", length, line.length());
-        return line;
-    }
-
-    private static void dueReason(String call, LogRaft x, int reason, int detail) {
-        due(call + " reason", x.reason(0, false), reason);
-        due(call + " detail", x.reason(0, true), detail);
-    }
-
-    private static String accounts(LogRaft x) {
-        int[] accounts = new int[13];
-        for (int i = 0; i < accounts.length; i++) {
-            accounts[i] = x.account(i);
-        }
-        return Arrays.toString(accounts);
-    }
-
-    /** Three drivers; driver 0 leads the term 1 with the tale a1b1, agreed by all. */
-    private static LogRaft sailing() {
-        LogRaft x = crew(3, 5, 7);
-        x.ask(0);
-        x.shout(0, 'a');
-        x.shout(0, 'b');
-        x.send(0);
-        x.send(0);
-        return x;
+        endWith("all promises are kept");
     }
 
     private static void constants() {
@@ -156,7 +58,7 @@ public final class PromisesTest {
     }
 
     private static void newObject() {
-        promise = 1;
+        where = "promise 1";
         LogRaft x = new LogRaft();
         due("accounts", accounts(x), "[0, 0, 0, 0, 0, 0, 0, 0, 0, 0, 0, 0, 0]");
         due("leader", x.leader(), NOTHING);
@@ -170,7 +72,7 @@ public final class PromisesTest {
     }
 
     private static void clear() {
-        promise = 2;
+        where = "promise 2";
         LogRaft x = new LogRaft();
         due("clear of nothing", x.clear(), 0);
         x = sailing();
@@ -218,7 +120,7 @@ public final class PromisesTest {
     }
 
     private static void append() {
-        promise = 3;
+        where = "promise 3";
         LogRaft x = new LogRaft();
         due("too low", x.append((char) 31), BAD);
         due("too high", x.append((char) 127), BAD);
@@ -236,7 +138,7 @@ public final class PromisesTest {
     }
 
     private static void driver() {
-        promise = 4;
+        where = "promise 4";
         LogRaft x = new LogRaft();
         due("patience 0", x.driver(0), BAD);
         due("patience 10", x.driver(10), BAD);
@@ -266,7 +168,7 @@ public final class PromisesTest {
     }
 
     private static void ask() {
-        promise = 5;
+        where = "promise 5";
         LogRaft x = new LogRaft();
         due("nobody", x.ask(0), NONE);
         x = crew(5);
@@ -308,7 +210,7 @@ public final class PromisesTest {
     }
 
     private static void askTakesOver() {
-        promise = 5;
+        where = "promise 5";
         LogRaft x = crew(9, 9, 9);
         x.cut(0, 1);
         x.cut(0, 2);
@@ -360,7 +262,7 @@ public final class PromisesTest {
     }
 
     private static void send() {
-        promise = 6;
+        where = "promise 6";
         LogRaft x = new LogRaft();
         due("nobody", x.send(0), NONE);
         x = crew(5);
@@ -399,7 +301,7 @@ public final class PromisesTest {
     }
 
     private static void sendTales() {
-        promise = 6;
+        where = "promise 6";
         LogRaft x = sailing();
         x.cut(0, 1);
         x.cut(0, 2);
@@ -460,7 +362,7 @@ public final class PromisesTest {
     }
 
     private static void sendToOneWhoAsked() {
-        promise = 6;
+        where = "promise 6";
         LogRaft x = crew(5, 5, 5, 5);
         x.cut(0, 1);
         x.cut(1, 2);
@@ -478,7 +380,7 @@ public final class PromisesTest {
     }
 
     private static void sendTakesOver() {
-        promise = 6;
+        where = "promise 6";
         LogRaft x = sailing();
         x.cut(0, 2);
         x.cut(1, 2);
@@ -496,7 +398,7 @@ public final class PromisesTest {
     }
 
     private static void shout() {
-        promise = 7;
+        where = "promise 7";
         LogRaft x = crew(5, 5);
         due("nobody", x.shout(2, 'a'), NONE);
         due("below", x.shout(-1, 'a'), NONE);
@@ -526,7 +428,7 @@ public final class PromisesTest {
     }
 
     private static void wash() {
-        promise = 8;
+        where = "promise 8";
         LogRaft x = crew(5, 5, 5);
         due("nobody", x.wash(3), NONE);
         due("below", x.wash(-1), NONE);
@@ -551,7 +453,7 @@ public final class PromisesTest {
     }
 
     private static void back() {
-        promise = 9;
+        where = "promise 9";
         LogRaft x = crew(5, 5);
         due("nobody", x.back(2), NONE);
         due("below", x.back(-1), NONE);
@@ -573,7 +475,7 @@ public final class PromisesTest {
     }
 
     private static void cut() {
-        promise = 10;
+        where = "promise 10";
         LogRaft x = crew(5, 5, 5);
         due("nobody", x.cut(0, 3), NONE);
         due("nobody", x.cut(3, 0), NONE);
@@ -593,7 +495,7 @@ public final class PromisesTest {
     }
 
     private static void tie() {
-        promise = 11;
+        where = "promise 11";
         LogRaft x = crew(5, 5, 5);
         due("nobody", x.tie(0, 3), NONE);
         due("nobody", x.tie(3, 0), NONE);
@@ -611,7 +513,7 @@ public final class PromisesTest {
     }
 
     private static void beats() {
-        promise = 12;
+        where = "promise 12";
         LogRaft x = crew(2, 4);
         due("none", x.beats(0), BAD);
         due("below", x.beats(-1), BAD);
@@ -659,7 +561,7 @@ public final class PromisesTest {
     }
 
     private static void read() {
-        promise = 13;
+        where = "promise 13";
         LogRaft x = new LogRaft();
         due("empty", x.read(), BAD);
         due("fault of an empty text", x.fault(), 0);
@@ -701,7 +603,7 @@ public final class PromisesTest {
     }
 
     private static void readWords() {
-        promise = 13;
+        where = "promise 13";
         LogRaft x = new LogRaft();
         due("driver", readText(x, "driver 9"), 1);
         due("patience", x.driverOf(0, 2), 9);
@@ -733,7 +635,7 @@ public final class PromisesTest {
     }
 
     private static void fault() {
-        promise = 14;
+        where = "promise 14";
         due("none", new LogRaft().fault(), NOTHING);
         dueFault(" ", 0);
         dueFault("x", 0);
@@ -794,7 +696,7 @@ public final class PromisesTest {
     }
 
     private static void reason() {
-        promise = 15;
+        where = "promise 15";
         LogRaft x = crew(5, 5);
         due("depth -1", x.reason(-1, false), BAD);
         due("depth 2", x.reason(2, true), BAD);
@@ -825,7 +727,7 @@ public final class PromisesTest {
     }
 
     private static void driverOf() {
-        promise = 16;
+        where = "promise 16";
         LogRaft x = sailing();
         due("nobody", x.driverOf(3, 0), NONE);
         due("below", x.driverOf(-1, 0), NONE);
@@ -855,7 +757,7 @@ public final class PromisesTest {
     }
 
     private static void lineOf() {
-        promise = 17;
+        where = "promise 17";
         LogRaft x = sailing();
         due("nobody", x.lineOf(3, 1, true), NONE);
         due("below", x.lineOf(-1, 1, true), NONE);
@@ -874,7 +776,7 @@ public final class PromisesTest {
     }
 
     private static void leader() {
-        promise = 18;
+        where = "promise 18";
         LogRaft x = crew(5, 5, 5);
         due("nobody", x.leader(), NOTHING);
         x.ask(2);
@@ -899,7 +801,7 @@ public final class PromisesTest {
     }
 
     private static void reaches() {
-        promise = 19;
+        where = "promise 19";
         LogRaft x = crew(5, 5, 5);
         due("reach", x.reaches(0, 1), true);
         due("the same", x.reaches(1, 1), false);
@@ -916,7 +818,7 @@ public final class PromisesTest {
     }
 
     private static void longer() {
-        promise = 20;
+        where = "promise 20";
         LogRaft x = sailing();
         due("nobody", x.longer(0, 3), NOTHING);
         due("nobody", x.longer(-1, 0), NOTHING);
@@ -942,7 +844,7 @@ public final class PromisesTest {
     }
 
     private static void wouldVote() {
-        promise = 21;
+        where = "promise 21";
         LogRaft x = crew(5, 5, 5);
         due("nobody", x.wouldVote(0, 3), false);
         due("nobody", x.wouldVote(3, 0), false);
@@ -985,9 +887,9 @@ public final class PromisesTest {
     }
 
     private static void dueLead(String call, LogRaft x, int driver, int want) {
-        promise = 22;
+        where = "promise 22";
         due("couldLead " + call, x.couldLead(driver), want);
-        promise = 23;
+        where = "promise 23";
         due("couldLeadAgain " + call, x.couldLeadAgain(driver), want);
         due("couldLead after it " + call, x.couldLead(driver), want);
     }
@@ -1032,7 +934,7 @@ public final class PromisesTest {
     }
 
     private static void alike() {
-        promise = 24;
+        where = "promise 24";
         LogRaft x = sailing();
         due("nobody", x.alike(0, 3), NONE);
         due("nobody", x.alike(3, 0), NONE);
@@ -1059,7 +961,7 @@ public final class PromisesTest {
     }
 
     private static void holders() {
-        promise = 25;
+        where = "promise 25";
         LogRaft x = sailing();
         due("nobody", x.holders(3, 1), NONE);
         due("below", x.holders(-1, 1), NONE);
@@ -1088,10 +990,10 @@ public final class PromisesTest {
 
     private static void agreed() {
         LogRaft x = crew(5, 5, 5);
-        promise = 26;
+        where = "promise 26";
         due("agreed by nobody", x.agreed(), 0);
         due("without drivers", new LogRaft().agreed(), 0);
-        promise = 27;
+        where = "promise 27";
         due("agreed by nobody", x.agreedAgain(), 0);
         due("without drivers", new LogRaft().agreedAgain(), 0);
         x.ask(1);
@@ -1100,28 +1002,28 @@ public final class PromisesTest {
         x.cut(1, 0);
         x.cut(1, 2);
         x.send(1);
-        promise = 26;
+        where = "promise 26";
         due("no majority", x.agreed(), 0);
-        promise = 27;
+        where = "promise 27";
         due("no majority", x.agreedAgain(), 0);
         x.tie(1, 0);
         x.send(1);
-        promise = 26;
+        where = "promise 26";
         due("majority", x.agreed(), 2);
-        promise = 27;
+        where = "promise 27";
         due("majority", x.agreedAgain(), 2);
         x.wash(1);
-        promise = 26;
+        where = "promise 26";
         due("a washed one knows", x.agreed(), 2);
-        promise = 27;
+        where = "promise 27";
         due("a washed one knows", x.agreedAgain(), 2);
         x = crew(5, 5, 5);
         x.ask(0);
         x.shout(0, 'a');
         x.send(0);
-        promise = 26;
+        where = "promise 26";
         due("the first one knows", x.agreed(), 1);
-        promise = 27;
+        where = "promise 27";
         due("the first one knows", x.agreedAgain(), 1);
         x.send(0);
         x.shout(0, 'b');
@@ -1130,14 +1032,14 @@ public final class PromisesTest {
         x.ask(2);
         x.shout(2, 'c');
         x.send(2);
-        promise = 26;
+        where = "promise 26";
         due("the last one knows", x.agreed(), 2);
-        promise = 27;
+        where = "promise 27";
         due("the last one knows", x.agreedAgain(), 2);
     }
 
     private static void conflicts() {
-        promise = 28;
+        where = "promise 28";
         due("nobody", new LogRaft().conflicts(), 0);
         LogRaft x = sailing();
         due("the same", x.conflicts(), 0);
@@ -1156,7 +1058,7 @@ public final class PromisesTest {
     }
 
     private static void isSafe() {
-        promise = 29;
+        where = "promise 29";
         due("nobody", new LogRaft().isSafe(), 1);
         LogRaft x = sailing();
         due("agreed by all", x.isSafe(), 1);
@@ -1179,7 +1081,7 @@ public final class PromisesTest {
     }
 
     private static void ranked() {
-        promise = 30;
+        where = "promise 30";
         due("nobody", new LogRaft().ranked(0), NONE);
         dueRanks(crew(5, 4, 3), 0, 1, 2);
         LogRaft x = crew(5, 5, 5, 5);
@@ -1212,7 +1114,7 @@ public final class PromisesTest {
     }
 
     private static void oldest() {
-        promise = 31;
+        where = "promise 31";
         due("nobody", new LogRaft().oldest(0), NONE);
         LogRaft x = crew(5, 4, 9, 4);
         dueOldest(x, 1, 3, 0, 2);
@@ -1231,7 +1133,7 @@ public final class PromisesTest {
     }
 
     private static void quietBeats() {
-        promise = 32;
+        where = "promise 32";
         due("nobody", new LogRaft().quietBeats(), NOTHING);
         due("one", crew(1, 9).quietBeats(), 1);
         due("nine", crew(9).quietBeats(), 9);
@@ -1275,7 +1177,7 @@ public final class PromisesTest {
     }
 
     private static void tell() {
-        promise = 33;
+        where = "promise 33";
         LogRaft x = crew(5, 5, 5);
         due("nobody", x.tell(3), NONE);
         due("below", x.tell(-1), NONE);
@@ -1307,7 +1209,7 @@ public final class PromisesTest {
     }
 
     private static void tellVotes() {
-        promise = 34;
+        where = "promise 34";
         LogRaft x = crew(5, 5, 5, 5);
         due("nobody", x.tellVotes(4), NONE);
         due("below", x.tellVotes(-1), NONE);
@@ -1328,7 +1230,7 @@ public final class PromisesTest {
     }
 
     private static void written() {
-        promise = 35;
+        where = "promise 35";
         LogRaft x = sailing();
         due("empty", x.written(0), NONE);
         due("tell", x.tell(0), 8);
@@ -1347,7 +1249,7 @@ public final class PromisesTest {
     }
 
     private static void meanTale() {
-        promise = 36;
+        where = "promise 36";
         due("nobody", Float.floatToIntBits(new LogRaft().meanTale()), Float.floatToIntBits(0.0f));
         LogRaft x = crew(5, 5, 5);
         due("no lines", Float.floatToIntBits(x.meanTale()), Float.floatToIntBits(0.0f));
@@ -1362,7 +1264,7 @@ public final class PromisesTest {
     }
 
     private static void agreedShare() {
-        promise = 37;
+        where = "promise 37";
         due("nobody", Double.doubleToLongBits(new LogRaft().agreedShare()), Double.doubleToLongBits(0.0));
         LogRaft x = crew(5, 5, 5);
         due("no lines", Double.doubleToLongBits(x.agreedShare()), Double.doubleToLongBits(0.0));
@@ -1381,7 +1283,7 @@ public final class PromisesTest {
     }
 
     private static void account() {
-        promise = 38;
+        where = "promise 38";
         LogRaft x = crew(9, 9, 9);
         due("below", x.account(-1), BAD);
         due("above", x.account(13), BAD);
@@ -1411,7 +1313,7 @@ public final class PromisesTest {
 
     /** With five drivers each loop over drivers goes as far as it ever can. */
     private static void fullCrew() {
-        promise = 38;
+        where = "promise 38";
         LogRaft x = crew(9, 8, 7, 6, 5);
         due("leads all", x.couldLead(4), 5);
         due("asks all", x.ask(4), 5);
@@ -1440,7 +1342,7 @@ public final class PromisesTest {
     }
 
     private static void undo() {
-        promise = 39;
+        where = "promise 39";
         LogRaft x = crew(9, 9);
         due("the second", x.undo(), 1);
         due("the first", x.undo(), 0);
@@ -1523,7 +1425,7 @@ public final class PromisesTest {
     }
 
     private static void save() {
-        promise = 40;
+        where = "promise 40";
         LogRaft x = new LogRaft();
         due("at first", x.save(), 0);
         x.driver(1);
@@ -1537,7 +1439,7 @@ public final class PromisesTest {
     }
 
     private static void restore() {
-        promise = 41;
+        where = "promise 41";
         LogRaft x = crew(9, 9, 9);
         due("nothing was saved", x.restore(), NOTHING);
         due("undo is still there", x.account(12), 3);
