@@ -205,12 +205,7 @@ final class CallBoundaries extends Sentences {
 
     private static void askNobody() {
         sentence(5, "NONE if there is no such driver");
-        for (int many = 0; many <= 5; many++) {
-            LogRaft x = crewOf(many);
-            for (int stranger : strangers(many)) {
-                due("ask " + stranger + " of " + many, x.ask(stranger), NONE);
-            }
-        }
+        dueOfStrangers("ask", (x, i) -> x.ask(i), NONE);
     }
 
     private static void askRefused() {
@@ -257,13 +252,7 @@ final class CallBoundaries extends Sentences {
 
     private static void sendNobody() {
         sentence(6, "NONE if there is no such driver");
-        for (int many = 0; many <= 5; many++) {
-            LogRaft x = crewOf(many);
-            x.ask(0);
-            for (int stranger : strangers(many)) {
-                due("send " + stranger + " of " + many, x.send(stranger), NONE);
-            }
-        }
+        dueOfStrangers("send", (x, i) -> x.send(i), NONE);
     }
 
     private static void sendRefused() {
@@ -290,13 +279,7 @@ final class CallBoundaries extends Sentences {
 
     private static void shoutNobody() {
         sentence(7, "NONE if there is no such driver");
-        for (int many = 0; many <= 5; many++) {
-            LogRaft x = crewOf(many);
-            x.ask(0);
-            for (int stranger : strangers(many)) {
-                due("shout " + stranger + " of " + many, x.shout(stranger, 'a'), NONE);
-            }
-        }
+        dueOfStrangers("shout", (x, i) -> x.shout(i, 'a'), NONE);
     }
 
     private static void shoutLetter() {
@@ -337,13 +320,7 @@ final class CallBoundaries extends Sentences {
 
     private static void washNobody() {
         sentence(8, "NONE if there is no such driver");
-        for (int many = 0; many <= 5; many++) {
-            LogRaft x = crewOf(many);
-            for (int stranger : strangers(many)) {
-                due("wash " + stranger + " of " + many, x.wash(stranger), NONE);
-            }
-            due("aboard", x.account(2), many);
-        }
+        dueOfStrangers("wash", (x, i) -> x.wash(i), NONE);
     }
 
     private static void washRefused() {
@@ -368,12 +345,7 @@ final class CallBoundaries extends Sentences {
 
     private static void backNobody() {
         sentence(9, "NONE if there is no such driver");
-        for (int many = 0; many <= 5; many++) {
-            LogRaft x = crewOf(many);
-            for (int stranger : strangers(many)) {
-                due("back " + stranger + " of " + many, x.back(stranger), NONE);
-            }
-        }
+        dueOfStrangers("back", (x, i) -> x.back(i), NONE);
     }
 
     private static void backRefused() {
@@ -400,15 +372,7 @@ final class CallBoundaries extends Sentences {
 
     private static void cutNobody() {
         sentence(10, "NONE if there is no such driver");
-        for (int many = 0; many <= 5; many++) {
-            LogRaft x = crewOf(many);
-            for (int stranger : strangers(many)) {
-                due("cut 0 " + stranger + " of " + many, x.cut(0, stranger), NONE);
-                due("cut " + stranger + " 0 of " + many, x.cut(stranger, 0), NONE);
-                due("cut " + stranger + " twice of " + many, x.cut(stranger, stranger), NONE);
-            }
-            due("ropes", x.account(3), 0);
-        }
+        dueOfStrangers("cut", (x, i, j) -> x.cut(i, j), NONE);
     }
 
     private static void cutRefused() {
@@ -435,15 +399,7 @@ final class CallBoundaries extends Sentences {
 
     private static void tieNobody() {
         sentence(11, "NONE if there is no such driver");
-        for (int many = 0; many <= 5; many++) {
-            LogRaft x = crewOf(many);
-            x.cut(0, 1);
-            for (int stranger : strangers(many)) {
-                due("tie 0 " + stranger + " of " + many, x.tie(0, stranger), NONE);
-                due("tie " + stranger + " 0 of " + many, x.tie(stranger, 0), NONE);
-                due("tie " + stranger + " twice of " + many, x.tie(stranger, stranger), NONE);
-            }
-        }
+        dueOfStrangers("tie", (x, i, j) -> x.tie(i, j), NONE);
     }
 
     private static void tieRefused() {

@@ -1,6 +1,3 @@
-import java.util.function.IntBinaryOperator;
-import java.util.function.ToIntFunction;
-
 /** The promises of the questions. */
 final class QuestionBoundaries extends Sentences {
     static void all() {
@@ -59,21 +56,6 @@ final class QuestionBoundaries extends Sentences {
         accountOfNothing();
     }
 
-    /** One who is not there, on either side, and on both. */
-    private static void dueStrangers(String call, int many, IntBinaryOperator asked, int want) {
-        for (int stranger : strangers(many)) {
-            due(call + " " + stranger + " 0 of " + many, asked.applyAsInt(stranger, 0), want);
-            due(call + " 0 " + stranger + " of " + many, asked.applyAsInt(0, stranger), want);
-            due(call + " " + stranger + " twice of " + many, asked.applyAsInt(stranger, stranger), want);
-        }
-    }
-
-    private static void dueStrangers(String call, int many, ToIntFunction<Integer> asked, int want) {
-        for (int stranger : strangers(many)) {
-            due(call + " " + stranger + " of " + many, asked.applyAsInt(stranger), want);
-        }
-    }
-
     // Drivers
 
     private static void numbersOfADriver() {
@@ -125,10 +107,7 @@ final class QuestionBoundaries extends Sentences {
 
     private static void numbersOfNobody() {
         sentence(16, "Returns the number; NONE if there is no such driver");
-        for (int many = 0; many <= 5; many++) {
-            LogRaft x = crewOf(many);
-            dueStrangers("driverOf", many, i -> x.driverOf(i, 0), NONE);
-        }
+        dueOfStrangers("driverOf", (x, i) -> x.driverOf(i, 0), NONE);
     }
 
     private static void numbersOfNoKind() {
@@ -156,13 +135,7 @@ final class QuestionBoundaries extends Sentences {
 
     private static void noLine() {
         sentence(17, "Returns the number; NONE if there is no such driver or line.");
-        for (int many = 0; many <= 5; many++) {
-            LogRaft x = crewOf(many);
-            x.ask(0);
-            x.shout(0, 'a');
-            x.send(0);
-            dueStrangers("lineOf", many, i -> x.lineOf(i, 1, true), NONE);
-        }
+        dueOfStrangers("lineOf", (x, i) -> x.lineOf(i, 1, true), NONE);
         LogRaft x = sailing();
         for (int line : new int[] {LOW, LOW + 1, -256, -1, 0, 3, 12, 13, 256 + 1, 65536 + 1, HIGH}) {
             due("letter of line " + line, x.lineOf(0, line, true), NONE);
@@ -211,15 +184,13 @@ final class QuestionBoundaries extends Sentences {
 
     private static void reachOneAndTheSame() {
         sentence(19, "false for one and the same, or if there is no such driver.");
-        for (int many = 0; many <= 5; many++) {
-            LogRaft x = crewOf(many);
-            for (int i = 0; i < many; i++) {
-                due("reaches itself", x.reaches(i, i), false);
-            }
-            dueStrangers("reaches", many, (i, j) -> x.reaches(i, j) ? 1 : 0, 0);
+        LogRaft x = crewOf(5);
+        for (int i = 0; i < 5; i++) {
+            due("reaches itself", x.reaches(i, i), false);
         }
+        dueOfStrangers("reaches", (y, i, j) -> y.reaches(i, j) ? 1 : 0, 0);
         sentence(19, "Returns whether they do");
-        due("the first and the last", crewOf(5).reaches(0, 4) && crewOf(5).reaches(4, 0), true);
+        due("the first and the last", x.reaches(0, 4) && x.reaches(4, 0), true);
     }
 
     private static void whoseTaleIsLonger() {
@@ -237,10 +208,7 @@ final class QuestionBoundaries extends Sentences {
 
     private static void longerOfNobody() {
         sentence(20, "NOTHING if there is no such driver.");
-        for (int many = 0; many <= 5; many++) {
-            LogRaft x = crewOf(many);
-            dueStrangers("longer", many, x::longer, NOTHING);
-        }
+        dueOfStrangers("longer", (x, i, j) -> x.longer(i, j), NOTHING);
     }
 
     // Votes
@@ -283,10 +251,7 @@ final class QuestionBoundaries extends Sentences {
 
     private static void wouldVoteOfNobody() {
         sentence(21, "false if there is no such driver.");
-        for (int many = 0; many <= 5; many++) {
-            LogRaft x = crewOf(many);
-            dueStrangers("wouldVote", many, (i, j) -> x.wouldVote(i, j) ? 1 : 0, 0);
-        }
+        dueOfStrangers("wouldVote", (x, i, j) -> x.wouldVote(i, j) ? 1 : 0, 0);
     }
 
     private static void couldLeadAsAsk() {
@@ -316,10 +281,7 @@ final class QuestionBoundaries extends Sentences {
 
     private static void couldLeadOfNobody() {
         sentence(22, "Returns how many; NONE if there is no such driver");
-        for (int many = 0; many <= 5; many++) {
-            LogRaft x = crewOf(many);
-            dueStrangers("couldLead", many, i -> x.couldLead(i), NONE);
-        }
+        dueOfStrangers("couldLead", (x, i) -> x.couldLead(i), NONE);
     }
 
     private static void couldLeadNothing() {
@@ -368,10 +330,7 @@ final class QuestionBoundaries extends Sentences {
 
     private static void couldLeadAgainOfNobody() {
         sentence(23, "NONE if there is no such driver");
-        for (int many = 0; many <= 5; many++) {
-            LogRaft x = crewOf(many);
-            dueStrangers("couldLeadAgain", many, i -> x.couldLeadAgain(i), NONE);
-        }
+        dueOfStrangers("couldLeadAgain", (x, i) -> x.couldLeadAgain(i), NONE);
     }
 
     private static void couldLeadAgainNothing() {
@@ -420,10 +379,7 @@ final class QuestionBoundaries extends Sentences {
 
     private static void alikeOfNobody() {
         sentence(24, "NONE if there is no such driver.");
-        for (int many = 0; many <= 5; many++) {
-            LogRaft x = crewOf(many);
-            dueStrangers("alike", many, x::alike, NONE);
-        }
+        dueOfStrangers("alike", (x, i, j) -> x.alike(i, j), NONE);
     }
 
     private static void holdersWashedAway() {
@@ -462,13 +418,7 @@ final class QuestionBoundaries extends Sentences {
 
     private static void holdersOfNobody() {
         sentence(25, "NONE if there is no such driver or line.");
-        for (int many = 0; many <= 5; many++) {
-            LogRaft x = crewOf(many);
-            x.ask(0);
-            x.shout(0, 'a');
-            x.send(0);
-            dueStrangers("holders", many, i -> x.holders(i, 1), NONE);
-        }
+        dueOfStrangers("holders", (x, i) -> x.holders(i, 1), NONE);
         LogRaft x = sailing();
         for (int line : new int[] {LOW, -256, -1, 0, 3, 12, 13, 256 + 1, 65536 + 1, HIGH}) {
             due("holders of line " + line, x.holders(1, line), NONE);
@@ -610,10 +560,7 @@ final class QuestionBoundaries extends Sentences {
         x.wash(0);
         due("washed away or not", x.ranked(0), 0);
         sentence(30, "Returns the driver; NONE if there is no such place.");
-        for (int many = 0; many <= 5; many++) {
-            LogRaft y = crewOf(many);
-            dueStrangers("ranked", many, i -> y.ranked(i), NONE);
-        }
+        dueOfStrangers("ranked", (y, i) -> y.ranked(i), NONE);
     }
 
     private static void oldestAboard() {
@@ -644,10 +591,7 @@ final class QuestionBoundaries extends Sentences {
         due("four are left", x.oldest(3), 0);
         due("no fifth", x.oldest(4), NONE);
         sentence(31, "Returns the driver; NONE if there is no such place.");
-        for (int many = 0; many <= 5; many++) {
-            LogRaft y = crewOf(many);
-            dueStrangers("oldest", many, i -> y.oldest(i), NONE);
-        }
+        dueOfStrangers("oldest", (y, i) -> y.oldest(i), NONE);
         LogRaft z = crewOf(1);
         z.ask(0);
         due("all lead", z.oldest(0), NONE);
@@ -735,12 +679,11 @@ final class QuestionBoundaries extends Sentences {
 
     private static void toldNobody() {
         sentence(33, "NONE if there is no such driver.");
-        for (int many = 0; many <= 5; many++) {
-            LogRaft x = crewOf(many);
-            String line = many == 0 ? "" : told(x, many - 1);
-            dueStrangers("tell", many, i -> x.tell(i), NONE);
-            due("the line stays", writtenOf(x), line);
-        }
+        dueOfStrangers("tell", (x, i) -> x.tell(i), NONE);
+        LogRaft x = crewOf(2);
+        x.tell(1);
+        x.tell(2);
+        due("the line stays", writtenOf(x), "f0:|");
     }
 
     private static void votesInOrder() {
@@ -777,12 +720,12 @@ final class QuestionBoundaries extends Sentences {
 
     private static void votesToldOfNobody() {
         sentence(34, "NONE if there is no such driver.");
-        for (int many = 0; many <= 5; many++) {
-            LogRaft x = crewOf(many);
-            String line = many == 0 ? "" : toldVotes(x, many - 1);
-            dueStrangers("tellVotes", many, i -> x.tellVotes(i), NONE);
-            due("the line stays", writtenOf(x), line);
-        }
+        dueOfStrangers("tellVotes", (x, i) -> x.tellVotes(i), NONE);
+        LogRaft x = crewOf(2);
+        x.ask(1);
+        x.tellVotes(1);
+        x.tellVotes(2);
+        due("the line stays", writtenOf(x), "0,1");
     }
 
     private static void writtenAtFirst() {
@@ -882,6 +825,13 @@ final class QuestionBoundaries extends Sentences {
         sentence(37, "Returns the share");
         x.send(0);
         dueShare("of all but two", x, 10.0 / 12.0);
+        x.clear();
+        x.driver(9);
+        x.ask(0);
+        x.shout(0, 'a');
+        dueShare("of one line alone", x, 0.0);
+        x.send(0);
+        dueShare("that is agreed", x, 1.0);
     }
 
     private static void shareWithoutLines() {
