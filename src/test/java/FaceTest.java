@@ -152,13 +152,15 @@ public final class FaceTest {
     private static void wildCalls() {
         Method[] methods = LogRaft.class.getDeclaredMethods();
         Arrays.sort(methods, (one, other) -> signatureOf(one).compareTo(signatureOf(other)));
-        for (int run = 0; run < 300; run++) {
+        for (int run = 0; run < 1000; run++) {
             Random random = new Random(run);
             LogRaft x = new LogRaft();
-            for (int i = run % 7; i > 0; i--) {
+            int crew = run % 7;
+            for (int i = 0; i < crew; i++) {
                 x.driver(1 + random.nextInt(9));
             }
-            for (int call = 0; call < 1500; call++) {
+            // What an object answers after its 512th call is free.
+            for (int call = crew; call < 512; call++) {
                 Method method = methods[random.nextInt(methods.length)];
                 boolean isClear = method.getName().equals("clear");
                 if (Modifier.isPublic(method.getModifiers()) && (!isClear || random.nextInt(30) == 0)) {

@@ -14,10 +14,16 @@ import java.util.regex.Pattern;
  * document that is made in another way: copied states, lists, sets of cut ropes, a pattern.
  */
 public final class ModelTest {
-    private static final int RUNS = 3000;
-    private static final int CALLS = 512;
+    private static final int RUNS = 6000;
+    // What an object answers after its 512th call is free, so nothing is asked of it then.
+    private static final int MOST_CALLS = 512;
+    // One step of a run: a text of 60 signs and its reading, at most.
+    private static final int MOST_CALLS_OF_A_STEP = 61;
+    // All that can be seen, for five numbers of drivers.
+    private static final int CALLS_TO_COMPARE_ALL = 13 + 5 * (11 + 2 * 12 + 4 + 5 * 3) + 5;
 
     private static int wrong = 0;
+    private static int callsMade = 0;
 
     public static void main(String[] arguments) {
         for (int run = 0; run < RUNS && wrong < 20; run++) {
@@ -30,6 +36,7 @@ public final class ModelTest {
     }
 
     private static void due(int run, int call, String name, Object got, Object want) {
+        callsMade++;
         if (!got.equals(want)) {
             wrong++;
             System.out.println("run " + run + " call " + call + ": " + name + " answered " + got + ", due is " + want);
@@ -42,22 +49,28 @@ public final class ModelTest {
         Random random = new Random(run);
         LogRaft x = new LogRaft();
         Model m = new Model();
+        callsMade = 0;
         int crew = random.nextInt(6);
         for (int i = 0; i < crew; i++) {
             int patience = 1 + random.nextInt(9);
             due(run, 0, "driver", x.driver(patience), m.driver(patience));
         }
-        int left = CALLS - crew;
-        // What is asked of the whole state goes beyond the 512 calls, and so stays rare.
-        for (int call = 0; call < left && wrong < 20; call++) {
+        // Half of the runs end early, at any place, and look at all that can be seen then.
+        boolean isLookedAt = run % 2 == 0;
+        int most = isLookedAt ? random.nextInt(MOST_CALLS - CALLS_TO_COMPARE_ALL) : MOST_CALLS;
+        while (callsMade + MOST_CALLS_OF_A_STEP <= most && wrong < 20) {
             if (random.nextInt(100) < 60) {
-                change(run, call, random, x, m);
+                change(run, callsMade, random, x, m);
             } else {
-                question(run, call, random, x, m);
+                question(run, callsMade, random, x, m);
             }
-            if (run % 10 == 0) {
-                compareAll(run, call, x, m);
-            }
+        }
+        if (isLookedAt) {
+            compareAll(run, callsMade, x, m);
+        }
+        if (callsMade > MOST_CALLS) {
+            wrong++;
+            System.out.println("run " + run + ": more than " + MOST_CALLS + " calls");
         }
     }
 
@@ -79,10 +92,10 @@ public final class ModelTest {
         if (often < 12) {
             due(run, call, "ask", x.ask(one), m.ask(one));
         } else if (often < 30) {
-            int leader = random.nextInt(5) == 0 ? one : x.leader();
+            int leader = random.nextInt(5) == 0 ? one : m.leader();
             due(run, call, "send", x.send(leader), m.send(leader));
         } else if (often < 48) {
-            int leader = random.nextInt(5) == 0 ? one : x.leader();
+            int leader = random.nextInt(5) == 0 ? one : m.leader();
             char letter = random.nextInt(20) == 0 ? (char) random.nextInt(200) : (char) ('a' + random.nextInt(3));
             due(run, call, "shout", x.shout(leader, letter), m.shout(leader, letter));
         } else if (often < 53) {
@@ -267,7 +280,7 @@ public final class ModelTest {
         }
     }
 
-    /** Looks at all that can be seen; the calls beyond the 512th count for this class alone. */
+    /** Looks at all that can be seen. */
     private static void compareAll(int run, int call, LogRaft x, Model m) {
         for (int what = 0; what < 13; what++) {
             due(run, call, "account " + what, x.account(what), m.account(what));
